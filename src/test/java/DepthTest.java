@@ -11,6 +11,7 @@ public final class DepthTest {
         most();
         widest();
         count();
+        changesAreSeen();
         Checks.end();
     }
 
@@ -66,6 +67,8 @@ public final class DepthTest {
         Checks.dueDeepest("the lower numbers are above 0", kite, 2, -1, 2, 0, 1);
         kite.away(3);
         Checks.dueDeepest("anew behind a change", kite, 1, -1, 1, 0, 1);
+        FurrowField skew = Checks.field(-5, 0, 0, 5, 4, 0, 2, 2, 0, -5, -5, 0, -4, 5, 0);
+        Checks.dueDeepest("x and y of unlike lower numbers", skew, 2, -305, 68, 5, 34);
         FurrowField heavy = Checks.field(0, 0, 3, 9, 0, 0, 0, 9, 0, 9, 9, 0);
         Checks.dueDeepest("a double outweighs", heavy, 3, 0, 1, 0, 1);
         heavy.colour(0, 1);
@@ -151,9 +154,11 @@ public final class DepthTest {
         FurrowField right = Checks.field(0, 0, 0, 3, 0, 0, 0, 4, 0);
         dueWidest("right angles", right, 16, 1);
         FurrowField skew = Checks.field(0, 0, 0, 1, 2, 0, 3, 1, 0);
-        dueWidest("a fraction in least terms", skew, 5, 1);
-        FurrowField fraction = Checks.field(0, 0, 0, 5, 1, 0, 2, 3, 0);
-        dueWidest("a fraction", fraction, 13, 1);
+        dueWidest("10 squared by 20, in least terms", skew, 5, 1);
+        FurrowField fraction = Checks.field(-4, -2, 0, 4, -2, 0, 3, 1, 0, 4, -1, 0, 1, 4, 0);
+        dueWidest("a fraction", fraction, 256, 5);
+        FurrowField rows = Checks.field(0, 0, 0, 2, 0, 0, 4, 0, 0, 1, 20, 0, 3, 20, 0, 5, 20, 0);
+        dueWidest("parallel to a line, at right angles to none", rows, 400, 1);
         FurrowField between = Checks.field(0, 0, 0, 1, 0, 0, 2, 0, 0, 3, 0, 0);
         dueWidest("plants between", between, 1, 1);
         FurrowField far = Checks.field(-300, -300, 0, 300, 299, 0);
@@ -188,5 +193,50 @@ public final class DepthTest {
         Checks.due("given", f.count(1), 5);
         Checks.due("count(7)", f.count(7), BAD);
         Checks.due("count(-1)", f.count(-1), BAD);
+    }
+
+    /** What was worked out ahead of a change must not be answered behind it. */
+    private static void changesAreSeen() {
+        int[] first = {0, 0, 3, 8, 0, 1, 0, 8, 2, 3, 3, 4};
+        int[] moved = {0, 0, 3, 8, 0, 1, 0, 8, 2, 9, 7, 4};
+        int[] more = {0, 0, 3, 8, 0, 1, 0, 8, 2, 3, 3, 4, 8, 8, 1};
+        int[] fewer = {8, 0, 1, 0, 8, 2, 3, 3, 4};
+        FurrowField f = Checks.field(first);
+        dueAlike("at first", f, Checks.field(first));
+        f.move(3, 6, 4);
+        dueAlike("move", f, Checks.field(moved));
+        f.undo();
+        dueAlike("undo of move", f, Checks.field(first));
+        Checks.put(f, 8, 8, 1);
+        dueAlike("plant", f, Checks.field(more));
+        f.undo();
+        dueAlike("undo of plant", f, Checks.field(first));
+        f.away(0);
+        dueAlike("away", f, Checks.field(fewer));
+        f.undo();
+        dueAlike("undo of away", f, Checks.field(first));
+        f.colour(3, 2);
+        FurrowField coloured = Checks.field(first);
+        coloured.colour(3, 2);
+        dueAlike("colour", f, coloured);
+        f.undo();
+        dueAlike("undo of colour", f, Checks.field(first));
+    }
+
+    private static void dueAlike(String when, FurrowField f, FurrowField g) {
+        Checks.due(when + ": furrows()", f.furrows(), g.furrows());
+        Checks.due(when + ": depth(4, 4, 1)", f.depth(4, 4, 1), g.depth(4, 4, 1));
+        Checks.due(when + ": halves(1)", f.halves(1), g.halves(1));
+        Checks.due(when + ": layer(1)", f.layer(1), g.layer(1));
+        for (int what = 0; what < 5; what++) {
+            Checks.due(when + ": deepest(" + what + ")", f.deepest(what), g.deepest(what));
+        }
+        for (int what = 0; what < 2; what++) {
+            Checks.due(when + ": widest(" + what + ")", f.widest(what), g.widest(what));
+            Checks.due(when + ": most(" + what + ")", f.most(what), g.most(what));
+        }
+        for (int what = 3; what < 7; what++) {
+            Checks.due(when + ": count(" + what + ")", f.count(what), g.count(what));
+        }
     }
 }
