@@ -9,6 +9,9 @@ public final class ModelTest {
         Integer.MIN_VALUE, -1000001, -1000000, -301, -300, -1, 0, 1, 2, 3, 4, 5, 6, 7, 8, 12, 13, 16, 39, 40,
         99, 100, 101, 300, 301, 1000, 1001, 1000000, 1000001, Integer.MAX_VALUE};
 
+    /** Where a field ends, sums and products are greatest. */
+    private static final int[] FIELD_ENDS = {-300, -299, -298, 0, 1, 298, 299, 300};
+
     private final Random random;
     private final int reach;
     private final int often;
@@ -51,6 +54,7 @@ public final class ModelTest {
 
     private int place() {
         if (random.nextInt(60) == 0) return EDGES[random.nextInt(EDGES.length)];
+        if (reach == 300 && random.nextInt(2) == 0) return FIELD_ENDS[random.nextInt(FIELD_ENDS.length)];
         return random.nextInt(2 * reach + 1) - reach;
     }
 
