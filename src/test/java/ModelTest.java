@@ -9,40 +9,51 @@ public final class ModelTest {
         Integer.MIN_VALUE, -1000001, -1000000, -301, -300, -1, 0, 1, 2, 3, 4, 5, 6, 7, 8, 12, 13, 16, 39, 40,
         99, 100, 101, 300, 301, 1000, 1001, 1000000, 1000001, Integer.MAX_VALUE};
 
+    private static final int[] REACHES = {1, 2, 3, 5, 10, 40, 300};
+
+    /** How many PLANTS a run begins with: few let deepest() answer, many fill the field. */
+    private static final int[] FIRST = {0, 5, 11, 38};
+
     /** Where a field ends, sums and products are greatest. */
     private static final int[] FIELD_ENDS = {-300, -299, -298, 0, 1, 298, 299, 300};
+
+    /** What a field answers behind its 512th call is free; no step makes more calls than these. */
+    private static final int LAST_CALL = 512, CALLS_OF_A_STEP = 9;
 
     private final Random random;
     private final int reach;
     private final int often;
+    private final int first;
     private final FurrowField fast = new FurrowField();
     private final SlowField slow = new SlowField();
+    private int calls;
 
-    private ModelTest(long seed, int reach, int often) {
+    private ModelTest(int seed) {
         random = new Random(seed);
-        this.reach = reach;
-        this.often = often;
+        reach = REACHES[seed % REACHES.length];
+        often = 2 + seed % 5;
+        first = FIRST[seed % FIRST.length];
     }
 
     public static void main(String[] args) {
-        int[] reaches = {1, 2, 3, 5, 10, 40, 300};
-        for (int seed = 0; seed < 210; seed++) {
-            new ModelTest(seed, reaches[seed % reaches.length], 2 + seed % 5).run();
+        for (int seed = 0; seed < 280; seed++) {
+            new ModelTest(seed).run();
         }
         Checks.end();
     }
 
     private void run() {
         due("bed(0, 2, 100)", fast.bed(0, 2, 100), slow.bed(0, 2, 100));
-        for (int i = 0; i < 12; i++) {
-            step(i % 2 == 0 ? 1 : 4);
+        for (int i = 0; i < first; i++) {
+            plantAnywhere();
         }
-        for (int calls = 14; calls < 512; calls++) {
+        while (calls <= LAST_CALL - CALLS_OF_A_STEP) {
             step(random.nextInt(40));
         }
     }
 
     private void due(String call, long got, long want) {
+        calls++;
         Checks.due("reach " + reach + ": " + call, got, want);
     }
 
@@ -75,6 +86,13 @@ public final class ModelTest {
         if (random.nextInt(3) == 0) due("status()", fast.status(), slow.status());
     }
 
+    private void plantAnywhere() {
+        int x = place(), y = place(), k = number(5);
+        due("set x", fast.set(0, 0, x), slow.set(0, 0, x));
+        due("set y", fast.set(0, 1, y), slow.set(0, 1, y));
+        due("plant", fast.plant(0, 0, k), slow.plant(0, 0, k));
+    }
+
     private void bedsAndPlanting(int which) {
         int bed = random.nextInt(3) == 0 ? number(8) : 0, i = number(100), j = number(100), n = number(101);
         switch (which) {
@@ -84,11 +102,8 @@ public final class ModelTest {
                 return;
             }
             case 4: case 5: {
-                int x = place(), y = place(), k = number(5);
-                due("set x", fast.set(0, 0, x), slow.set(0, 0, x));
-                due("set y", fast.set(0, 1, y), slow.set(0, 1, y));
-                // The pace of planting differs from run to run: few PLANTS let deepest() answer.
-                if (random.nextInt(often) == 0) due("plant", fast.plant(0, 0, k), slow.plant(0, 0, k));
+                // The pace of planting differs from run to run, for the same reason.
+                if (random.nextInt(often) == 0) plantAnywhere();
                 return;
             }
             case 6: {

@@ -17,7 +17,7 @@ public final class RefusalsTest {
     private final Consumer<FurrowField> making;
     private final int statusAhead;
     private final Map<Integer, String> twins = new HashMap<>();
-    private int given;
+    private final int given;
 
     private RefusalsTest(String name, Consumer<FurrowField> making, int statusAhead) {
         this.name = name;
