@@ -25,6 +25,7 @@ public final class FaceTest {
         methods();
         constants();
         classesInside();
+        methodsAreShort();
         source();
         Checks.end();
     }
@@ -85,8 +86,25 @@ public final class FaceTest {
             Checks.isTrue(c + " has at most twenty fields", c.getDeclaredFields().length <= 20);
             for (Method m : c.getDeclaredMethods()) {
                 Checks.isTrue(m + " takes at most seven", m.getParameterCount() <= 7);
+                Checks.isTrue(m + " bears no name of the face",
+                    Arrays.stream(FACE).noneMatch(face -> face.contains(" " + m.getName() + "(")));
             }
         }
+    }
+
+    /** A method ends at the first brace that stands as far in as the line on which it began. */
+    private static void methodsAreShort() throws IOException {
+        List<String> lines = Files.readAllLines(Path.of("src/main/java/FurrowField.java"));
+        int methods = 0;
+        for (int i = 0; i < lines.size(); i++) {
+            Matcher m = Pattern.compile("(    |        )\\w[\\w\\[\\] ]+\\(.*\\) \\{").matcher(lines.get(i));
+            if (m.matches() && !lines.get(i).matches(" +(if|for|while|switch) .*")) {
+                methods++;
+                int end = i + lines.subList(i, lines.size()).indexOf(m.group(1) + "}");
+                Checks.isTrue("at most sixty lines: " + lines.get(i).strip(), end > i && end - i <= 60);
+            }
+        }
+        Checks.isTrue("the methods were found: " + methods, methods > 27);
     }
 
     /** Words that the language rules out; comments are left aside. */
